@@ -75,19 +75,7 @@ public final class LeaseOffice {
     }
 
     public int fund(int person, int n) {
-        if (!office.isPerson(person) || n < 1 || n > 999) {
-            return BAD;
-        }
-        Person p = office.personAt(person);
-        int forDebt = Math.min(p.debt, n);
-        int purseThen = p.purse + n - forDebt;
-        if (purseThen > MAX_PURSE) {
-            return STATE;
-        }
-        p.debt -= forDebt;
-        p.purse = purseThen;
-        office.till += forDebt;
-        return purseThen;
+        return office.bringCoins(person, n);
     }
 
     public int personOf(int person, int what) {
@@ -161,16 +149,7 @@ public final class LeaseOffice {
     }
 
     public int waive(int person, int tool) {
-        if (!office.isPerson(person) || !office.isTool(tool)) {
-            return BAD;
-        }
-        Tool t = office.toolAt(tool);
-        int place = t.placeOfClaim(person);
-        if (place < 0) {
-            return NOT;
-        }
-        t.claims.remove(place);
-        return t.claims.size();
+        return office.dropClaim(person, tool);
     }
 
     public int returned(int tool) {
@@ -488,7 +467,7 @@ public final class LeaseOffice {
                     cells[at - width] = cells[at];
                 }
             }
-            for (int at = Math.max(size - 1, 0) * width; at < size * width && at < cells.length; at++) {
+            for (int at = (size - 1) * width; at >= 0 && at < size * width && at < cells.length; at++) {
                 cells[at] = 0;
             }
             return size - 1;
@@ -873,6 +852,22 @@ public final class LeaseOffice {
             return before;
         }
 
+        int bringCoins(int person, int n) {
+            if (!isPerson(person) || n < 1 || n > 999) {
+                return BAD;
+            }
+            Person p = personAt(person);
+            int forDebt = Math.min(p.debt, n);
+            int purseThen = p.purse + n - forDebt;
+            if (purseThen > MAX_PURSE) {
+                return STATE;
+            }
+            p.debt -= forDebt;
+            p.purse = purseThen;
+            till += forDebt;
+            return purseThen;
+        }
+
         int toolsWith(int person) {
             int found = 0;
             for (int i = 0; i < toolCount; i++) {
@@ -976,6 +971,19 @@ public final class LeaseOffice {
                 return FULL;
             }
             return t.addClaim(person, urgency, days, day);
+        }
+
+        int dropClaim(int person, int tool) {
+            if (!isPerson(person) || !isTool(tool)) {
+                return BAD;
+            }
+            Tool t = toolAt(tool);
+            int place = t.placeOfClaim(person);
+            if (place < 0) {
+                return NOT;
+            }
+            t.claims.remove(place);
+            return t.claims.size();
         }
 
         int giveBack(int tool) {

@@ -8,6 +8,8 @@ public final class TextsAndHoldersTest {
         promise28ScriptRefused();
         promise28ScriptUndone();
         promise29And30Image();
+        promise30BackAndDebt();
+        promise30WhoComesAfterIt();
         promise30BackAndHolders();
         promise31Hold();
         promise32Row();
@@ -188,6 +190,58 @@ public final class TextsAndHoldersTest {
         Due.is("a new image", x.image(), 10);
         x.days(2);
         Due.is("the new one", x.back(), 10);
+    }
+
+    private static void promise30BackAndDebt() {
+        LeaseOffice x = Due.officeOf(50);
+        x.tool(50);
+        x.lease(0, 0, 9);
+        x.use(0, 2);
+        x.look(0);
+        x.image();
+        Due.is("debt", x.personOf(0, 4), 11);
+        x.use(0, 4);
+        x.look(0);
+        Due.is("more debt", x.personOf(0, 4), 33);
+        x.fund(0, 43);
+        Due.is("none", x.personOf(0, 4), 0);
+        Due.is("the till", x.count(5), 33);
+        x.back();
+        Due.is("as it was", x.personOf(0, 4), 11);
+        Due.is("the till as it was", x.count(5), 0);
+    }
+
+    private static void promise30WhoComesAfterIt() {
+        LeaseOffice x = new LeaseOffice();
+        x.image();
+        x.person(1, 40);
+        x.tool(40);
+        x.wish(0, 0, 5);
+        x.claim(0, 0, 101);
+        x.lease(0, 0, 1);
+        x.use(0, 9);
+        x.days(5);
+        x.returned(0);
+        x.lease(0, 0, 1);
+        x.look(0);
+        Due.is("nobody is left", x.back(), 0);
+        Due.is("no persons", x.count(0), 0);
+        x.person(2, 60);
+        x.tool(30);
+        int[] person = {2, 60, 50, 0, 0, 0, 0, 0};
+        for (int what = 0; what < person.length; what++) {
+            Due.is("a new person " + what, x.personOf(0, what), person[what]);
+        }
+        int[] tool = {30, 0, Due.NOT, Due.NOT, Due.NOT, 0, 0, 0, 1};
+        for (int what = 0; what < tool.length; what++) {
+            Due.is("a new tool " + what, x.toolOf(0, what), tool[what]);
+        }
+        Due.is("a new wish", x.wish(0, 0, 1), 0);
+        Due.is("the first look", x.seen(0, 0, 1), 0);
+        x.lease(0, 0, 5);
+        x.use(0, 3);
+        Due.is("blamed as if it were the first", x.told(0, 1), 1);
+        Due.is("its share", x.share(0, 0), 10);
     }
 
     private static void promise30BackAndHolders() {

@@ -240,6 +240,8 @@ public final class ThoughtTest {
         Due.is("there are more", x.judge(5, 0), 1);
         row(x, 5, 2, 0, 1);
         Due.is("beyond", x.judge(5, 0), 2);
+        row(x, 5, 2, 0, 0);
+        Due.is("beyond, told 0", x.judge(5, 0), 2);
         row(x, 5, 2, 0, Due.NOT);
         Due.is("beyond, told NOT", x.judge(5, 0), 2);
         Due.is("no tool", x.judge(5, 1), Due.BAD);
