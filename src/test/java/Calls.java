@@ -20,8 +20,16 @@ final class Calls {
         }
     }
 
-    private final LeaseOffice x = new LeaseOffice();
+    private final LeaseOffice x;
     private int made = 0;
+
+    Calls() {
+        this(new LeaseOffice());
+    }
+
+    Calls(LeaseOffice x) {
+        this.x = x;
+    }
 
     /** Makes calls that lead up to something: those with a ! ahead are refused, the others not. */
     void make(String what, String calls) {

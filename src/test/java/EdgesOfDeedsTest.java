@@ -71,7 +71,8 @@ public final class EdgesOfDeedsTest {
                 .is("fund 0 1 | lease 0 0 5 | personOf 0 1", 0).is("lease 0 1 5 | personOf 0 1", 0)
                 .refusedBy("lease 0 1 5 | tool 1 | lease 0 2 5", 2)
                 .is("lease 0 1 5 | tool 1 | fund 0 1 | lease 0 2 5", 5).refused("text l 0 0 5", -2000);
-        Edge.says(12, "1 (not AT THE OFFICE, or WEAR 9; looked at first), 2 (PURSE)")
+        Edge.says(12, "A REFUSAL has whys, one by the other: of lease() 1 (not AT THE OFFICE, or WEAR 9; looked at "
+                + "first), 2 (PURSE)")
                 .after("person 1 19 | person 2 60 | tool 20")
                 .refusedBy("lease 0 0 5", 2).refusedBy("lease 1 0 5 | lease 0 0 5", 1)
                 .refusedBy("lease 1 0 5 | use 0 9 | returned 0 | lease 0 0 5", 1)
@@ -171,7 +172,8 @@ public final class EdgesOfDeedsTest {
         Edge.says(15, "STATE: it is AT THE OFFICE.").after(TWO_AND_TWO)
                 .refused("returned 0", Due.STATE).is("lease 0 0 5 | returned 0", 0)
                 .refused("lease 0 0 5 | returned 0 | returned 0", Due.STATE)
-                .refused("text r 0", -2000).is("lease 0 0 5 | text r 0", 1)
+                .refused("text r 0", -2000).is("lease 0 0 5 | text r 0", 1).refused("text r 2", -2000)
+                .is("lease 0 1 5 | text r 1", 1).refused("text r 10", -2000)
                 .refusedFor("returned #", Due.BAD, NO_TOOL_OF_TWO)
                 .is("!lease 0 0 0 | !returned 0 | why 0", Due.NOT);
         Edge.says(15, "l: how many DAYS it is DUE ago (0 if not)").after(TWO_AND_TWO + " | lease 0 0 5")
@@ -308,6 +310,11 @@ public final class EdgesOfDeedsTest {
     }
 
     private static void promise16Whys() {
+        Edge.says(16, "PASSED is a TOOL to another PERSON").after(TWO_AND_TWO + " | lease 0 0 5 | days 6")
+                .refused("pass 0 0", Due.BAD).refusedBy("pass 0 1", 6, 3).is("!pass 0 0 | why 0", Due.NOT);
+        Edge.says(16, "pass() 6 by 2 or 3").after(TWO_AND_TWO + " | person 3 19 | lease 0 0 5")
+                .refusedBy("pass 0 2", 6, 2).refusedBy("days 6 | pass 0 1", 6, 3).refusedBy("days 6 | pass 0 2", 6, 3)
+                .refusedBy("days 5 | pass 0 2", 6, 2).is("days 5 | pass 0 1", 1);
         Edge.says(16, "if DAY isn't beyond DUE (why 3, that is looked at first)")
                 .after(TWO_AND_TWO + " | person 3 19 | lease 0 0 5")
                 .is("pass 0 1", 1).is("days 4 | pass 0 1", 1).is("days 5 | pass 0 1", 1)
@@ -383,6 +390,13 @@ public final class EdgesOfDeedsTest {
     }
 
     private static void promise17Done() {
+        Edge.says(17, "if not, nothing is done").after("person 1 40 | person 2 81 | tool 40 | tool 41 | claim 0 1 101 | "
+                + "row 0 2 | image | " + TWO_TO_SWAP)
+                .refusedBy("swap 0 1", 5, 2).refusedBy("swap 1 0", 5, 2).is("!swap 0 1 | toolOf 0 2", 0)
+                .is("!swap 0 1 | personOf 1 1", 40).is("!swap 0 1 | toolOf 0 7", 1).is("fund 0 1 | swap 0 1", 2);
+        Edge.says(17, "swap() 4, or 5 by 2 or 3.").after("person 1 200 | person 2 79 | tool 40 | tool 40 | " + TWO_TO_SWAP)
+                .refusedBy("swap 0 1", 5, 2).refusedBy("fund 1 1 | wish 0 0 1 | swap 0 1", 4)
+                .refusedBy("fund 1 1 | days 6 | swap 0 1", 5, 3).is("fund 1 1 | days 5 | swap 0 1", 2);
         Edge.says(17, "SWAPPED: GAIN.").after(TWO_AND_TWO + " | lease 0 0 5 | lease 1 1 9 | wish 0 1 4 | wish 1 0 3 "
                 + "| wish 1 1 1 | claim 1 0 101 | days 2 | swap 0 1")
                 .is("toolOf 0 2", 1).is("toolOf 1 2", 0).is("toolOf 0 3", 2).is("toolOf 1 3", 2).is("toolOf 0 4", 5)

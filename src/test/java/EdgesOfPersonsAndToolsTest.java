@@ -1,3 +1,5 @@
+import java.util.Arrays;
+
 /** Boundaries that the document names: promises 1 to 11, and the terms that they stand on. */
 public final class EdgesOfPersonsAndToolsTest {
     private static final int MIN = Integer.MIN_VALUE, MAX = Integer.MAX_VALUE;
@@ -11,6 +13,9 @@ public final class EdgesOfPersonsAndToolsTest {
 
     public static void main(String[] args) {
         promise1();
+        promise1OwnMemory();
+        promise1Answers();
+        promise1NothingChanges();
         promise2Name();
         promise2Others();
         promise2SeveralAnswers();
@@ -54,6 +59,60 @@ public final class EdgesOfPersonsAndToolsTest {
                 .is("person 1 99 | tool 9 | " + Edge.times(254, IN_TIME) + " | lease 0 0 1 | personOf 0 2", 99);
     }
 
+    private static void promise1OwnMemory() {
+        Edge.says(1, "All memory is the class's own.");
+        LeaseOffice x = new LeaseOffice();
+        LeaseOffice y = new LeaseOffice();
+        String calls = "person 1 100 | person 2 100 | tool 20 | wish 0 0 5 | lease 0 0 5 | claim 1 0 101 | use 0 3 | image"
+                + " | days 3 | row 0 2 | put 0 1 9 | hold 1 1 1 | type d 1 | !lease 0 0 1";
+        new Calls(x).make("promise 1, one of two objects", calls);
+        for (State page : State.ALL) {
+            int[] got = page.readOff(new Calls(y));
+            int[] want = page.readOff(new Calls());
+            Due.is("promise 1: the other object is new", Arrays.equals(got, want) ? 1 : 0, 1);
+            y = new LeaseOffice();
+        }
+        Due.is("promise 1: the one is as it was", x.personOf(0, 1), 80);
+    }
+
+    private static void promise1Answers() {
+        String office = TWO_AND_TWO + " | row 0 2 | hold 1 1 0 | lease 0 0 5";
+        Edge.says(1, "BAD (-1): no such number, or it is not as said").after(office)
+                .refused("personOf 2 0", -1).refused("personOf 0 8", -1).refused("tool 0", -1).refused("hold 0 3 0", -1);
+        Edge.says(1, "NOT (-2): as told").after(office).refused("ranked 2", -2).refused("link 0 1 0", -2)
+                .refused("waive 0 0", -2).refused("toolOf 1 2", -2).refused("told 0 0", -2).refused("why 0", -2);
+        Edge.says(1, "FULL (-3)").after(office + " | " + Edge.times(8, "tool 9")).refused("tool 9", -3)
+                .is("image | back | person 3 5", 2);
+        Edge.says(1, "STATE (-5): as told").after(office).refused("person 1 5", -5).refused("returned 1", -5)
+                .refused("back", -5).refused("claim 0 0 101", -5).refused("use 1 1", -5);
+        Edge.says(1, "-11 nothing is there where something is wanted").after(office).refused("tells 2 0", -11)
+                .refused("judge 2 -1", -11).is("tells 1 0", 0).is("judge 0 -1", 1);
+        Edge.says(1, "-12 it is of another sort").after(office).refused("tells 1 2", -12).refused("tells 0 0", -12)
+                .refused("judge 1 -1", -12).is("tells 1 1", 50);
+        Edge.says(1, "-14 a size below 0").after(office).refused("row 2 -1", -14).is("row 2 0", 1);
+        Edge.says(1, "VOID is -2000000000.").after(office).refused("put 0 2 5", -2000000000)
+                .refused("put 1 0 5", -2000000000).refused("put 2 0 5", -2000000000).is("put 0 1 5", 0);
+    }
+
+    private static void promise1NothingChanges() {
+        Edge nothing = Edge.says(1, "What is answered so changes nothing (but THE REFUSAL).")
+                .after(TWO_AND_TWO + " | wish 0 1 5 | lease 0 0 5 | claim 1 0 203 | use 0 4 | days 6 | look 0 | use 0 1"
+                        + " | image | fund 0 3 | !lease 0 0 5 | row 0 3 | put 0 1 5 | hold 1 1 1 | hold 2 2 1 | type d 1");
+        String[] bad = {"person 0 5", "person 3 -1", "tool 0", "wish 0 0 10", "fund 0 0", "personOf 0 8", "toolOf 0 9",
+            "link 0 0 3", "seen 0 0 2", "claimOf 0 0 4", "ranked -1", "lease 0 1 0", "claim 0 1 0", "waive 2 0",
+            "returned 2", "pass 0 0", "swap 0 0", "use 0 0", "look 2", "days 0", "why -1", "told 0 3", "share 0 2",
+            "swaps 4", "ahead 61 0", "judge 0 2", "feed 256", "hold 0 1 2", "row 0 61", "tells 0 4", "count 9"};
+        for (String call : bad) {
+            nothing.refused(call, Due.BAD);
+        }
+        nothing.refused("person 1 5", Due.STATE).refused("claim 0 0 101", Due.STATE).refused("returned 1", Due.STATE)
+                .refused("use 1 1", Due.STATE).refused("pass 1 0", Due.STATE).refused("waive 0 0", Due.NOT)
+                .refused("link 0 1 0", Due.NOT).refused("judge 5 -1", Due.EMPTY).refused("judge 1 -1", Due.SORT)
+                .refused("row 0 -1", Due.SIZE).refused("put 0 3 5", LeaseOffice.VOID)
+                .refused("put 1 0 5", LeaseOffice.VOID).refused("tells 1 2", Due.SORT)
+                .refusedBy("lease 1 0 5", 1).refusedBy("pass 0 1", 6, 3);
+    }
+
     private static void promise2Name() {
         Edge.says(2, "name: 1 to 3 letters as digits of 27, a 1, z 26, the first the highest")
                 .refused("person 0 5", Due.BAD).is("person 1 5", 0)
@@ -85,6 +144,10 @@ public final class EdgesOfPersonsAndToolsTest {
     }
 
     private static void promise2Others() {
+        Edge.says(2, "a NAME (1 .. 3 letters a .. z").is("text p a 5", 1).is("text p z 5", 1).is("text p zzz 5", 1)
+                .refused("text p zzzz 5", -1005).refused("person 0 5", Due.BAD).refused("person 19683 5", Due.BAD);
+        Edge.says(2, "BAD (name, purse)").after("person 1 5").is("person 2 5", 1).refused("person 0 5", Due.BAD)
+                .refused("person 2 -1", Due.BAD).refused("person 0 -1", Due.BAD).refused("person 1 -1", Due.BAD);
         Edge.says(2, "PURSE (0 .. 9999").is("person 1 0 | personOf 0 1", 0)
                 .is("person 1 9999 | personOf 0 1", 9999)
                 .refusedFor("person 1 #", Due.BAD, -1, 10000, MIN, MAX)

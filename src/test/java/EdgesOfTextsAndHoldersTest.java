@@ -50,6 +50,12 @@ public final class EdgesOfTextsAndHoldersTest {
                 .is("text k 0", 1).is("text k 0;k 0", 2).is("text " + "k 0;".repeat(28) + "k 0", 29)
                 .is("text " + "k 0;".repeat(29) + "k 0", 30).is("text " + "k 0;".repeat(29) + "k 000 | days 1", 1)
                 .is("text " + "k 0;".repeat(29) + "k 00", 30).is("text " + "d 1;".repeat(29) + "d 1 | count 4", 30);
+        Edge.says(28, "LINES with ; between").after(TWO_AND_TWO).is("text k 0;k 1", 2).refused("text ;k 0", -1000)
+                .refused("text k 0;", -1004).refused("text k 0;;k 1", -1004).refused("text k 0 k 1", -1003)
+                .refused("text k 0:k 1", -1003);
+        Edge.says(28, "Else the LINES are done").after(TWO_AND_TWO).is("text d 1;d 2 | count 4", 3)
+                .is("!text d 1;d | count 4", 0).is("!text d 1;d 100 | count 4", 0)
+                .is("text t 5;w 0 2 7;w 0 2 8 | wish 0 2 0", 8).is("text l 0 0 5;r 0;l 1 0 5 | toolOf 0 2", 1);
         Edge.says(28, "a NAME of 1 to 3 letters").is("text p a 5", 1).is("text p abc 5", 1).is("text p zzz 5", 1)
                 .refused("text p  5", -1002).refused("text p abcd 5", -1005).refused("text p A 5", -1002)
                 .refused("text p ` 5", -1002).refused("text p { 5", -1002).refused("text p a` 5", -1003)
@@ -220,9 +226,31 @@ public final class EdgesOfTextsAndHoldersTest {
                 .sameBehind("", "lease 0 1 5 | !swap 0 1 | back").sameBehind("", "look 0 | look 1 | back")
                 .sameBehind("", "!lease 0 0 5 | back").sameBehind("", "text p c 5;t 3;w 2 2 9;l 0 2 5;u 2 5;k 2 | back")
                 .sameBehind("", "text t 3;r 0;c 1 2 5 5 | !text d 0 | back")
-                .sameBehind("", "person 3 300 | lease 2 1 5 | returned 1 | " + Edge.times(8, "lease 2 1 5 | use 1 1 | returned 1")
-                        + " | back")
+                .sameBehind("", "person 3 300 | lease 2 1 5 | returned 1 | "
+                        + Edge.times(8, "lease 2 1 5 | use 1 1 | returned 1") + " | back")
                 .sameBehind("", "image | back").sameBehind("", "back");
+        // Person 0 owes 20 and was late once; one LINK of the TOOL has ended, one is open.
+        Edge.says(29, "AN IMAGE keeps all of 1.").after("person 1 20 | person 2 99 | tool 20 | lease 0 0 5 | use 0 9"
+                + " | look 0 | days 6 | returned 0 | tool 30 | lease 1 1 5 | use 1 2 | look 1 | fund 0 23 | image")
+                .is("personOf 0 4", 0).is("personOf 1 4", 0).is("personOf 0 3", 1)
+                .sameBehind("", "use 1 7 | look 1 | back").sameBehind("", "fund 1 9 | fund 0 9 | back")
+                .sameBehind("", "fund 0 30 | pass 1 0 | use 1 1 | pass 1 1 | back")
+                .sameBehind("", "fund 0 30 | pass 1 0 | pass 1 1 | pass 1 0 | pass 1 1 | look 1 | back")
+                .is("fund 0 30 | pass 1 0 | pass 1 1 | back | use 1 1 | look 1", 1)
+                .is("fund 0 30 | pass 1 0 | pass 1 1 | back | told 1 1", 2)
+                .is("returned 1 | " + Edge.times(9, "lease 1 1 5 | returned 1") + " | back | told 1 1", 2)
+                .is("returned 1 | " + Edge.times(9, "lease 1 1 5 | returned 1") + " | look 1 | back | fund 0 30 | pass 1 0"
+                        + " | told 1 1", 3);
+        Edge.says(29, "AN IMAGE keeps all of 1.").after("person 1 20 | tool 20 | lease 0 0 5 | use 0 4 | look 0 | image")
+                .is("personOf 0 4", 8).sameBehind("", "fund 0 3 | back").sameBehind("", "fund 0 9 | back")
+                .sameBehind("", "use 0 5 | look 0 | back").is("use 0 5 | look 0 | back | personOf 0 4", 8)
+                .is("fund 0 9 | back | count 5", 0).refused("text u 0 5;k 0;d 0", -2002)
+                .is("!text u 0 5;k 0;d 0 | personOf 0 4", 8).is("text u 0 5;k 0;d 1 | personOf 0 4", 19);
+        // The one LINK that there ever was had ended by the LOOK.
+        Edge.says(29, "AN IMAGE keeps all of 1.").after(TWO_AND_TWO + " | lease 0 0 5 | returned 0 | look 0 | image")
+                .is("told 0 1", 0).is("lease 1 0 5 | told 0 1", 2).is("lease 1 0 5 | back | told 0 1", 0)
+                .sameBehind("", "lease 1 0 5 | back").is("lease 1 0 5 | back | lease 1 0 5 | told 0 1", 2)
+                .is("!text l 1 0 5;d 0 | told 0 1", 0).refused("text l 1 0 5;d 0", -2001);
         Edge.says(29, "an IMAGE keeps it, too").after(TWO_AND_TWO + " | lease 0 0 5 | !lease 1 0 5 | image")
                 .is("!swap 0 9 | back | why 0", 1).is("lease 1 1 5 | !swap 0 1 | why 0", 4)
                 .is("lease 1 1 5 | !swap 0 1 | back | why 0", 1);
@@ -239,6 +267,23 @@ public final class EdgesOfTextsAndHoldersTest {
                 .is("person 3 30 | tool 3 | lease 2 2 5 | use 2 5 | returned 2 | back | tool 4 | toolOf 2 7", 0)
                 .is("person 3 30 | tool 3 | lease 2 2 5 | use 2 5 | back | tool 4 | toolOf 2 1", 0)
                 .is("person 3 30 | tool 3 | lease 2 2 5 | back | tool 4 | toolOf 2 2", Due.NOT);
+        Edge.says(30, "It is laid back").after("image | person 2 50 | tool 20 | wish 0 0 7 | person 3 50 | claim 1 0 105"
+                + " | lease 0 0 1 | use 0 5 | pass 0 1 | pass 0 0 | fund 1 1 | days 5 | look 0 | use 0 3 | returned 0")
+                .is("personOf 0 3", 1).is("back | person 5 20", 0).is("back | person 5 20 | personOf 0 3", 0)
+                .is("back | person 5 20 | personOf 0 2", 50).is("back | person 5 20 | tool 20 | wish 0 0 1", 0)
+                .is("back | tool 30 | toolOf 0 6", 0).is("back | tool 30 | toolOf 0 7", 0)
+                .is("back | tool 30 | toolOf 0 8", 1).is("back | tool 30 | seen 0 0 1", 0)
+                .is("back | tool 30 | told 0 1", 0)
+                .is("back | tool 20 | person 5 20 | lease 0 0 5 | told 0 1", 1)
+                .is("back | tool 20 | person 5 20 | lease 0 0 5 | use 0 9 | share 0 0", 20)
+                .is("back | tool 20 | person 5 20 | person 6 20 | lease 0 0 5 | pass 0 1 | told 0 1", 3)
+                .is("back | tool 20 | person 5 20 | person 6 20 | lease 0 0 5 | look 0 | pass 0 1 | told 0 1", 3);
+        Edge.says(30, "It is laid back").after("image | person 1 20 | tool 20 | lease 0 0 5 | use 0 9 | look 0")
+                .is("personOf 0 4", 20).is("back | person 2 5 | personOf 0 4", 0).is("back | count 6", 0)
+                .is("back | person 2 5 | count 6", 0);
+        Edge.says(30, "It is laid back").after("image | person 1 20 | tool 20 | claim 0 0 101")
+                .is("back | tool 30 | toolOf 0 6", 0).is("back | person 2 5 | tool 30 | claim 0 0 205", 0)
+                .is("back | person 2 5 | personOf 0 7", 0).is("back | count 3", 0);
         Edge.says(30, "STATE: there is none.").refused("back", Due.STATE).refused("days 5 | back", Due.STATE)
                 .refused(TWO_AND_TWO + " | lease 0 0 5 | days 3 | back", Due.STATE).is("image | back", 0)
                 .is("!back | image | days 1 | back", 0).is("image | back | back | back", 0);

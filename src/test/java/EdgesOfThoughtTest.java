@@ -115,6 +115,18 @@ public final class EdgesOfThoughtTest {
     }
 
     private static void promise24Best() {
+        // The other way about: the greater TOOL ahead can be SWAPPED, the lesser one ahead not.
+        Edge.says(24, "SWAPS: how many twos (the lesser first) could be SWAPPED now; BEST: that of most GAIN")
+                .after("person 1 80 | person 2 40 | tool 40 | tool 40 | lease 0 0 5 | lease 1 1 5 | wish 0 1 1 | wish 1 0 1")
+                .is("swaps 0", 0).is("swaps 1", Due.NOT).is("swap 1 0", 2).refusedBy("swap 0 1", 5, 2)
+                .is("fund 1 40 | swaps 0", 1).is("fund 1 40 | swaps 1", 1).is("fund 1 39 | swaps 1", Due.NOT);
+        Edge.says(24, "GAIN of two TOOLS: what both WISHES rise by, together, if each is more").after(THREE_HOLDERS)
+                .is("wish 0 1 1 | wish 1 0 1 | swap 0 1", 2).is("wish 0 1 9 | wish 1 0 9 | swap 0 1", 18)
+                .is("wish 0 1 9 | wish 0 0 8 | wish 1 0 9 | wish 1 1 5 | swap 0 1", 5)
+                .is("wish 0 1 9 | wish 0 0 9 | wish 1 0 9 | swaps 0", 0).is("wish 0 1 9 | swaps 0", 0)
+                .is("wish 0 1 9 | wish 1 0 1 | wish 0 2 5 | wish 2 0 6 | swaps 1", 2)
+                .is("wish 0 1 9 | wish 1 0 2 | wish 0 2 5 | wish 2 0 6 | swaps 1", 1)
+                .is("wish 0 1 9 | wish 1 1 1 | wish 0 2 1 | wish 2 0 1 | swaps 1", 2);
         Edge.says(24, "BEST: that of most GAIN (10 times the lesser, and the other), of several the least")
                 .after(THREE_HOLDERS)
                 .is("swaps 1", Due.NOT).is("wish 0 1 1 | swaps 1", Due.NOT)
