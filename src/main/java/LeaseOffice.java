@@ -44,12 +44,12 @@ public final class LeaseOffice {
 
     private static final int EMPTY = 0, HOLDS_PERSON = 1, HOLDS_TOOL = 2, HOLDS_ROW = 3;
 
-    private final Office office = new Office();
+    private final Thought thought = new Thought();
+    private final Office office = thought.office;
     private final Office imageKept = new Office();
     private final Office aheadOfText = new Office();
-    private final Thought thought = new Thought(office);
-    private final Table tape = new Table(MAX_TAPE, 1);
-    private final TextReader reader = new TextReader(tape);
+    private final TextReader reader = new TextReader();
+    private final Table tape = reader.tape;
     private final Holder[] holders = new Holder[MAX_HOLDERS];
     private final Holder noHolder = new Holder();
     private boolean hasImage;
@@ -463,8 +463,11 @@ public final class LeaseOffice {
             if (size < rows) {
                 size++;
             } else {
-                for (int at = width; at < cells.length; at++) {
-                    cells[at - width] = cells[at];
+                for (int to = 0; to < cells.length; to++) {
+                    int from = to + width;
+                    if (from >= 0 && from < cells.length) {
+                        cells[to] = cells[from];
+                    }
                 }
             }
             for (int at = (size - 1) * width; at >= 0 && at < size * width && at < cells.length; at++) {
@@ -477,8 +480,11 @@ public final class LeaseOffice {
         void insert(int row) {
             append();
             int first = Math.max(row, 0) * width;
-            for (int at = cells.length - 1; at >= width && at >= first + width; at--) {
-                cells[at] = cells[at - width];
+            for (int to = cells.length - 1; to >= 0 && to < cells.length; to--) {
+                int from = to - width;
+                if (from >= first && from >= 0 && from < cells.length) {
+                    cells[to] = cells[from];
+                }
             }
         }
 
@@ -486,8 +492,11 @@ public final class LeaseOffice {
             if (row < 0 || row >= size) {
                 return;
             }
-            for (int at = row * width; at >= 0 && at < cells.length - width; at++) {
-                cells[at] = cells[at + width];
+            for (int to = row * width; to >= 0 && to < cells.length; to++) {
+                int from = to + width;
+                if (from >= 0 && from < cells.length) {
+                    cells[to] = cells[from];
+                }
             }
             size--;
         }
@@ -1128,14 +1137,10 @@ public final class LeaseOffice {
         }
     }
 
-    /** What is asked of an OFFICE in thought: nothing in it changes. */
+    /** The OFFICE as it is now, and what is asked of it in thought: nothing in it changes. */
     private static final class Thought {
-        private final Office office;
+        final Office office = new Office();
         private final Blame blame = new Blame();
-
-        Thought(Office office) {
-            this.office = office;
-        }
 
         int nextOf(int tool) {
             Tool t = office.toolAt(tool);
@@ -1268,17 +1273,13 @@ public final class LeaseOffice {
     }
 
     /**
-     * Reads the TEXT on a TAPE into lines, a row each. No reading step goes past a byte that does
-     * not fit, so where reading ends is the place of the fault.
+     * THE TAPE, and what reads the TEXT on it into lines, a row each. No reading step goes past a
+     * byte that does not fit, so where reading ends is the place of the fault.
      */
     private static final class TextReader {
-        private final Table tape;
+        final Table tape = new Table(MAX_TAPE, 1);
         final Table lines = new Table(MAX_LINES, LINE_WIDTH);
         int place;
-
-        TextReader(Table tape) {
-            this.tape = tape;
-        }
 
         /** Whether all of the TAPE is a TEXT. */
         boolean readText() {

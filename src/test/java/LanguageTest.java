@@ -9,6 +9,8 @@ import java.util.ArrayList;
 import java.util.List;
 import java.util.Set;
 import java.util.TreeSet;
+import java.util.regex.Matcher;
+import java.util.regex.Pattern;
 
 /** The face of the document, and those rules of LANGUAGE.md that can be read off class and source. */
 public final class LanguageTest {
@@ -117,9 +119,54 @@ public final class LanguageTest {
                 methodBegin = i;
             }
             if (line.matches(" {4}( {4})?\\}") && methodBegin >= 0) {
-                holds("rule 11: the method of line " + (methodBegin + 1) + " is short", i - methodBegin <= 60);
+                String name = "the method of line " + (methodBegin + 1);
+                String method = String.join("\n", lines.subList(methodBegin, i + 1));
+                holds("rule 11: " + name + " is short", i - methodBegin <= 60);
+                indexesAreTested(name, method);
+                divisorsAreTested(name, method);
+                loopsEnd(name, method);
                 methodBegin = -1;
             }
+            Matcher length = Pattern.compile("\\bnew \\w+\\[([^\\]]*)\\]").matcher(code);
+            while (length.find()) {
+                holds("rule 7: line " + (i + 1) + " tests a length: " + length.group(),
+                        length.group(1).matches("[A-Z_]+|Math\\.max\\(.*, 0\\)"));
+            }
+            // What a constructor hands on would stand between these brackets: a constant or a number may.
+            Matcher made = Pattern.compile("\\bnew [A-Z]\\w*\\(([^)]*)\\)").matcher(code);
+            while (made.find()) {
+                holds("rule 12: line " + (i + 1) + " hands nothing of the object on: " + made.group(),
+                        made.group(1).matches("[A-Z_0-9, ]*"));
+            }
+        }
+    }
+
+    /** Each index is a plain variable, which the same method holds against 0 and the array's length. */
+    private static void indexesAreTested(String name, String method) {
+        Matcher used = Pattern.compile("(\\w+)\\[([^\\]]+)\\]").matcher(method.replaceAll("new int\\[.*?\\];", ""));
+        while (used.find()) {
+            String index = used.group(2);
+            holds("rule 7: " + name + " tests " + used.group(), index.matches("[a-z]+")
+                    && (method.contains(index + " >= 0") || method.contains("int " + index + " = 0;"))
+                    && method.contains(index + " < " + used.group(1) + ".length"));
+        }
+    }
+
+    /** A divisor is a constant, or the same method leaves where it is not above 0. */
+    private static void divisorsAreTested(String name, String method) {
+        Matcher used = Pattern.compile(" [/%]=? ([^ ;),]+)").matcher(method);
+        while (used.find()) {
+            String divisor = used.group(1);
+            holds("rule 7: " + name + " tests " + divisor,
+                    divisor.matches("[1-9]\\d*|LETTERS") || method.contains("if (" + divisor + " <= 0"));
+        }
+    }
+
+    /** A loop's own line holds a counter against a bound. */
+    private static void loopsEnd(String name, String method) {
+        Matcher loop = Pattern.compile("\\b(for|while) \\((.*)\\) \\{").matcher(method);
+        while (loop.find()) {
+            holds("rule 9: " + name + " has an end to " + loop.group(), loop.group(2).matches(".*\\w+ (<|>|>=) \\S+.*"));
         }
     }
 }
